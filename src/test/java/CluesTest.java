@@ -59,6 +59,13 @@ public final class CluesTest {
         x.forget();
         x.seen(0, 1, 8);
         due("a carter that there is not", x.never(), 0);
+        for (int p = 0; p < 8; p++) {
+            x.forget();
+            x.seen(0, 1, p);
+            due("nor is it at a place", x.never(), 0);
+        }
+        x.forget();
+        x.seen(0, 1, 8);
         Checks.put(x, 1, "abo990;aao000");
         due("it is there, at a", x.never(), 0);
         x.late(1, 1);

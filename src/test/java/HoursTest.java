@@ -186,6 +186,12 @@ public final class HoursTest {
         due("up", x.far(1, 2), 3);
         due("by b", x.far(0, 2), 11);
         due("to itself", x.far(7, 7), 0);
+        Checks.put(x, 0, "ba1f;ac1f;hb1f");
+        due("by a", x.far(1, 2), 4);
+        due("by b and a", x.far(7, 2), 6);
+        Checks.put(x, 0, "ah1f;hb1f");
+        due("by h", x.far(0, 1), 4);
+        Checks.put(x, 0, "ab1f");
         due("no ways", x.far(0, 7), -1);
         due("no ways from there", x.far(7, 0), -1);
         due("far(-1, 0)", x.far(-1, 0), -2);
@@ -243,6 +249,12 @@ public final class HoursTest {
         due("the least place", x.met(1), 6);
         x.late(3, 1);
         due("the first hour comes first", x.met(1), 7);
+        Checks.put(x, 1, "aar000;aar000");
+        due("two at a, the hour", x.met(0), 0);
+        due("two at a", x.met(1), 0);
+        Checks.put(x, 1, "aar000");
+        due("one is gone, the hour", x.met(0), -1);
+        due("one is gone, the place", x.met(1), -1);
         due("met(-1)", x.met(-1), -2);
         due("met(2)", x.met(2), -2);
     }

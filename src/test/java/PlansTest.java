@@ -71,6 +71,17 @@ public final class PlansTest {
         due("a riddle of strength 2 comes", x.lend(2), 2);
         x.late(0, 1);
         due("by its LATE it is not told", x.lend(2), 2);
+        x.late(0, 0);
+        // Each has the other's sort: the riddle's owner is told in place of the first.
+        Checks.put(x, 1, "abo990;abr990;bbr000");
+        due("the open one is told", x.who(3), 1);
+        due("one of them is told all the same", x.lend(2), 2);
+        due("of like ones the least again, first", x.lend(0), 0);
+        due("of like ones the least again, other", x.lend(1), 1);
+        Checks.put(x, 1, "abo990");
+        due("first, of one again", x.lend(0), -1);
+        due("other, of one again", x.lend(1), -1);
+        due("how many, of one again", x.lend(2), -1);
     }
 
     private static void delay() {
@@ -120,6 +131,11 @@ public final class PlansTest {
         Checks.put(x, 1, "");
         due("without carters", x.level(0), 0);
         due("none come", x.level(1), 0);
+        Checks.put(x, 1, "aco990");
+        due("a plan before", x.delay(0, 0), 0);
+        Checks.put(x, 0, "");
+        due("no ways again", x.level(0), -1);
+        due("no ways again, how many", x.level(1), -1);
         // Flat is worse than down.
         x = Checks.road("ab2d;bc1f", "abo020");
         due("the flat one had better be flat", x.level(0), 1);

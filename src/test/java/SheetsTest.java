@@ -43,11 +43,13 @@ public final class SheetsTest {
             due("get(59)", x.get(form, form, 59), 0);
             due("get(60)", x.get(form, form, 60), LEAST);
         }
+        x.lay(1, 1, 0, 66);
         x.lay(1, 1, 5, 77);
         due("SIZE changes nothing", x.sheet(1, 1, -5), -15);
         due("it is as it was", x.get(1, 1, 5), 77);
         due("a new row", x.sheet(1, 1, 6), 6);
         due("of zeros", x.get(1, 1, 5), 0);
+        due("of zeros from 0 on", x.get(1, 1, 0), 0);
         due("of six items", x.get(1, 1, 6), LEAST);
     }
 

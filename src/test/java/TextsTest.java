@@ -91,12 +91,17 @@ public final class TextsTest {
         due("undo(1)", x.undo(1), -3);
         due("undo(0)", x.undo(0), 3);
         due("ways are not ended", x.count(0), 0);
+        due("far by ways that are not ended", x.far(0, 1), -1);
         due("type again", x.type(0, 'd'), 4);
         due("ways are there again", x.far(0, 1), 1);
         for (int left = 3; left >= 0; left--) {
             due("undo", x.undo(0), left);
         }
         due("undo of empty", x.undo(0), -3);
+        Checks.put(x, 1, "aao000");
+        due("one comes", x.count(5), 1);
+        x.undo(1);
+        due("nobody comes when its text is undone", x.count(5), 0);
     }
 
     private static void fault(int text, String signs, int want) {
