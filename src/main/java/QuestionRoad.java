@@ -134,7 +134,7 @@ public final class QuestionRoad {
         if (from.lost) {
             return found(NULL);
         }
-        answers.number = 0;
+        int before = answers.number;
         for (int i = 0; i + 1 < from.length && answers.number < ANSWERS; i += 2) {
             int hour = from.items[i];
             int place = from.items[i + 1];
@@ -144,7 +144,7 @@ public final class QuestionRoad {
             answers.push(hour, place);
         }
         run.play(setting);
-        return answers.number;
+        return answers.number - before;
     }
 
     // ---- hours

@@ -184,8 +184,8 @@ public final class CluesTest {
         x.answer(0, 0);
         rumour(x, 4, 0, 9, 16);
         rumour(x, 6, 0, 25, 64);
-        for (int n = 4; n <= 9; n++) {
-            x.answer(0, 0);
+        for (int n = 2; n >= 0; n--) {
+            due("back", x.back(), n);
         }
         x.sheet(0, 0, 16);
         due("eight like ones", x.read(0), 8);

@@ -3,6 +3,7 @@ public final class HoursTest {
     public static void main(String[] args) {
         answers();
         reading();
+        readingBehindOthers();
         oneRoad();
         whatIsAskedFirst();
         theRiddleAndTheCommon();
@@ -58,7 +59,6 @@ public final class HoursTest {
         due("no finding", x.count(8), 0);
         due("read of a lost one", x.read(2), -11);
         due("NULL", x.count(8), 1);
-        x.answer(0, 0);
         x.sheet(0, 2, 5);
         x.lay(0, 2, 0, 39);
         x.lay(0, 2, 1, 7);
@@ -66,8 +66,8 @@ public final class HoursTest {
         x.lay(0, 2, 3, 1);
         x.lay(0, 2, 4, 1);
         due("two are whole", x.read(0), 2);
-        due("those before are gone", x.count(4), 2);
-        due("not told any more", x.who(2), 1);
+        due("both are there", x.count(4), 2);
+        due("not told by them", x.who(2), 1);
         x.lay(0, 2, 2, 40);
         due("as long as the hour may be", x.read(0), 1);
         x.lay(0, 2, 2, 0);
@@ -75,16 +75,45 @@ public final class HoursTest {
         due("as long as the place may be", x.read(0), 1);
         x.lay(0, 2, 1, 8);
         due("the first may not be", x.read(0), 0);
-        due("none are left", x.back(), -3);
-        x.sheet(1, 0, 60);
-        due("eight at most", x.read(1), 8);
-        due("full", x.answer(0, 0), -4);
-        due("told at a in hour 0", x.who(3), 1);
+        due("those before are there", x.count(4), 4);
         x.sheet(1, 1, 0);
         due("an empty sheet", x.read(1), 0);
-        x.answer(1, 1);
         x.sheet(1, 1, 1);
         due("half an answer", x.read(1), 0);
+        due("still four", x.count(4), 4);
+    }
+
+    private static void readingBehindOthers() {
+        QuestionRoad x = Checks.road("ab1f", "abo990");
+        x.answer(0, 0);
+        x.sheet(0, 0, 2);
+        x.lay(0, 0, 0, 39);
+        due("one more", x.read(0), 1);
+        due("the earlier one is there", x.count(4), 2);
+        due("told by it", x.who(3), 1);
+        due("that of the sheet is the last", x.back(), 1);
+        due("told as before", x.who(3), 1);
+        due("the earlier one is undone", x.back(), 0);
+        due("not told any more", x.who(2), 1);
+        for (int n = 1; n <= 5; n++) {
+            x.answer(39, 7);
+        }
+        x.sheet(1, 0, 60);
+        due("as many as there is room for", x.read(1), 3);
+        due("told at a in hour 0", x.who(3), 1);
+        due("full", x.answer(0, 0), -4);
+        due("no room for one", x.read(1), 0);
+        due("eight are there", x.count(4), 8);
+        due("no finding", x.count(8), 0);
+        for (int n = 7; n >= 5; n--) {
+            due("back", x.back(), n);
+        }
+        due("those before tell nobody", x.who(2), 1);
+        due("three again", x.read(1), 3);
+        x = new QuestionRoad();
+        x.sheet(1, 0, 60);
+        due("eight at most", x.read(1), 8);
+        due("eight", x.count(4), 8);
     }
 
     private static void oneRoad() {

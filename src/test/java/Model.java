@@ -327,13 +327,11 @@ final class Model {
         if (sheets[s] == null) {
             return find(1);
         }
-        answers = new ArrayList<>();
-        for (int i = 0; i < sheets[s].length / 2; i++) {
-            if (answer(sheets[s][2 * i], sheets[s][2 * i + 1]) < 0) {
-                break;
-            }
+        int came = 0;
+        while (2 * came + 1 < sheets[s].length && answer(sheets[s][2 * came], sheets[s][2 * came + 1]) > 0) {
+            came++;
         }
-        return answers.size();
+        return came;
     }
 
     int at(int hour, int carter, int what) {

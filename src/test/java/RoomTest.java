@@ -49,7 +49,7 @@ public final class RoomTest {
             x.sheet(s, 2, 60);
             x.write(s, s);
         }
-        sum += x.copy(0, 0, 1, 0, 60) + x.read(3);
+        sum += x.copy(0, 0, 1, 0, 60) + x.back() + x.read(3);
         for (int c = 0; c < 8; c++) {
             sum += x.needs(c) + x.delay(c, 0) + x.sort(c) + x.force(c, 0) + x.ask(c) + x.rumour(5, c, 0) + x.ends(c);
         }
