@@ -2,16 +2,27 @@
 final class Checks {
     private static int calls = 0;
     private static int wrong = 0;
+    private static String heading = "";
 
     private Checks() {
+    }
+
+    /** What stands ahead of each answer that is not as due from now on. */
+    static void heading(String words) {
+        heading = words.isEmpty() ? "" : words + ": ";
     }
 
     static void due(String call, long got, long want) {
         calls++;
         if (got != want) {
             wrong++;
-            System.out.println(call + " answered " + got + ", due is " + want);
+            System.out.println(heading + call + " answered " + got + ", due is " + want);
         }
+    }
+
+    /** How many answers were looked at so far. */
+    static int looked() {
+        return calls;
     }
 
     static void dueTrue(String what, boolean is) {

@@ -5,33 +5,66 @@ import java.util.List;
 public final class DigestTest {
     public static void main(String[] args) {
         Checks.due("digest of a new object", new QuestionRoad().digest(), fold(newObject()));
-        QuestionRoad x = Checks.road("ab1f;bc2u;cd1d;da9f;ae1f;ef1u;fg1d;gh1f;ha2f;bh1u",
+        same("full texts", texts());
+        same("eight answers", answers());
+        same("late", late());
+        same("eight seen", seen());
+        refusalsChangeNothing(seen());
+        sheetsAreNoPartOfIt(seen());
+        QuestionRoad x = seen();
+        x.undo(1);
+        same("a faulty text", x);
+        x = seen();
+        x.wipe(0);
+        same("no ways", x);
+        same("each hour", eachHour());
+        Checks.end("DigestTest");
+    }
+
+    private static QuestionRoad texts() {
+        return Checks.road("ab1f;bc2u;cd1d;da9f;ae1f;ef1u;fg1d;gh1f;ha2f;bh1u",
             "adc300;dac504;ber203;eco120;afo991;aar000;hdo609;gbr454");
-        same("full texts", x);
+    }
+
+    private static QuestionRoad answers() {
+        QuestionRoad x = texts();
         int[][] answers = {{0, 0}, {2, 1}, {6, 2}, {3, 4}, {39, 7}, {10, 3}, {1, 0}, {2, 1}};
         for (int[] a : answers) {
             x.answer(a[0], a[1]);
         }
-        same("eight answers", x);
+        return x;
+    }
+
+    private static QuestionRoad late() {
+        QuestionRoad x = answers();
         x.late(0, 1);
         x.late(6, 9);
-        same("late", x);
+        return x;
+    }
+
+    private static QuestionRoad seen() {
+        QuestionRoad x = late();
         for (int n = 0; n < 8; n++) {
             x.seen(5 * n, n, n == 5 ? 0 : 8);
         }
-        same("eight seen", x);
-        refusalsChangeNothing(x);
-        sheetsAreNoPartOfIt(x);
-        x.undo(1);
-        same("a faulty text", x);
-        x.wipe(0);
-        same("no ways", x);
-        Checks.end("DigestTest");
+        return x;
     }
 
+    /** Behind HOURS 0, 5, 15, 39 it is otherwise than an HOUR earlier or later, by SEED 7 than by 6 and 8. */
+    private static QuestionRoad eachHour() {
+        QuestionRoad x = Checks.road("ab5d;bc5d;cd5d;de5d;ef5d;fg5d;gh5d",
+            "abr990;acr990;adr990;aer990;ahr990;ahr990;ahr990;ahr990");
+        for (int c = 0; c < 8; c++) {
+            x.late(c, c);
+        }
+        return x;
+    }
+
+    /** All in less than 512 calls, for which an object is used. */
     private static void same(String name, QuestionRoad x) {
-        Checks.due("digest, " + name, x.digest(), fold(byTheFace(x)));
-        Checks.due("digest again, " + name, x.digest(), fold(byTheFace(x)));
+        long digest = x.digest();
+        Checks.due("digest, " + name, digest, fold(byTheFace(x)));
+        Checks.due("digest again, " + name, x.digest(), digest);
     }
 
     private static long fold(List<Long> all) {

@@ -2,12 +2,15 @@ import java.util.Random;
 
 /** Promises 1 to 37: runs of calls by a fixed seed, each answer held against the plain Model. */
 public final class RandomTest {
-    private static final int RUNS = 260;
+    private static final int RUNS = 300;
+    // An object is used for 512 calls: so many, one more of them (or a text typed anew), and the digest.
+    private static final int MOST_CALLS = 440;
     private final Random random;
     private final QuestionRoad x = new QuestionRoad();
     private final Model m = new Model();
     private final int run;
     private int places = 8;
+    private int calls = 0;
 
     private RandomTest(int run) {
         this.run = run;
@@ -23,10 +26,9 @@ public final class RandomTest {
     }
 
     private void play() {
-        int calls = 0;
         if (run % 8 != 0) {
-            calls += typeWays();
-            calls += typeCarters();
+            typeWays();
+            typeCarters();
             for (int c = 0; c < 8; c++) {
                 if (random.nextInt(3) == 0) {
                     due("late", x.late(c, c), m.late(c, c));
@@ -36,16 +38,19 @@ public final class RandomTest {
         for (int n = random.nextInt(9); n > 0; n--) {
             answer();
         }
-        for (; calls < 300; calls++) {
+        while (calls < MOST_CALLS) {
             if (random.nextInt(12) == 0) {
-                calls += retype();
+                retype();
+            } else {
+                call(random.nextInt(37));
             }
-            call(random.nextInt(37));
         }
         due("digest()", x.digest(), m.digest());
+        Checks.dueTrue("run " + run + ": 512 calls at most", calls <= 512);
     }
 
     private void due(String call, long got, long want) {
+        calls++;
         Checks.due("run " + run + ": " + call, got, want);
     }
 
@@ -57,11 +62,10 @@ public final class RandomTest {
         due("type(" + text + ", " + b + ")", x.type(text, b), m.type(text, b));
     }
 
-    private int typeSigns(int text, String signs) {
+    private void typeSigns(int text, String signs) {
         for (int i = 0; i < signs.length(); i++) {
             typeSign(text, signs.charAt(i));
         }
-        return signs.length();
     }
 
     private char place() {
@@ -84,44 +88,46 @@ public final class RandomTest {
         return "" + place() + place() + "ocr".charAt(random.nextInt(3)) + strength / 10 + strength % 10 + load;
     }
 
-    private int typeWays() {
+    private void typeWays() {
         int n = random.nextInt(11);
-        int calls = 0;
         for (int i = 0; i < n; i++) {
-            calls += typeSigns(0, i == 0 ? way() : ";" + way());
+            typeSigns(0, i == 0 ? way() : ";" + way());
         }
-        return calls;
     }
 
-    private int typeCarters() {
+    private void typeCarters() {
         int n = random.nextInt(9);
-        int calls = 0;
         for (int i = 0; i < n; i++) {
-            calls += typeSigns(1, i == 0 ? carter() : ";" + carter());
+            typeSigns(1, i == 0 ? carter() : ";" + carter());
         }
-        return calls;
     }
 
-    private int retype() {
+    private void retype() {
         int text = random.nextInt(2);
         switch (random.nextInt(4)) {
             case 0:
                 due("wipe", x.wipe(text), m.wipe(text));
-                return text == 0 ? typeWays() : typeCarters();
+                if (text == 0) {
+                    typeWays();
+                } else {
+                    typeCarters();
+                }
+                break;
             case 1:
                 for (int i = 0; i < 5 + 2 * text; i++) {
                     due("undo", x.undo(text), m.undo(text));
                 }
-                return 7;
+                break;
             case 2:
-                return typeSigns(text, m.count(2 + text) == 0 ? text == 0 ? way() : carter() : ";" + (text == 0 ? way() : carter()));
+                typeSigns(text, (m.count(2 + text) == 0 ? "" : ";") + (text == 0 ? way() : carter()));
+                break;
             default:
                 typeSign(text, "abch;019udfocrix".charAt(random.nextInt(16)));
                 due("fault", x.fault(text), m.fault(text));
                 if (random.nextInt(3) != 0) {
                     due("undo", x.undo(text), m.undo(text));
                 }
-                return 3;
+                break;
         }
     }
 

@@ -17,7 +17,8 @@ public final class RoomTest {
         QuestionRoad x = made();
         long made = threads.getThreadAllocatedBytes(self) - before;
         before = threads.getThreadAllocatedBytes(self);
-        for (int round = 0; round < 20; round++) {
+        // An object is used for 512 calls.
+        for (int round = 0; round < 4; round++) {
             dearCalls(x);
         }
         long called = threads.getThreadAllocatedBytes(self) - before;
