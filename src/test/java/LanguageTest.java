@@ -5,8 +5,11 @@ import java.lang.reflect.Method;
 import java.lang.reflect.Modifier;
 import java.nio.file.Files;
 import java.nio.file.Path;
+import java.util.HashMap;
+import java.util.Map;
 import java.util.Set;
 import java.util.TreeSet;
+import java.util.regex.Matcher;
 import java.util.regex.Pattern;
 
 /** The public face, and those rules of LANGUAGE.md that can be read off the file. */
@@ -20,7 +23,9 @@ public final class LanguageTest {
     public static void main(String[] args) throws IOException {
         face();
         nested();
-        source(Files.readString(Path.of("src/main/java/QuestionRoad.java")));
+        String file = Files.readString(Path.of("src/main/java/QuestionRoad.java"));
+        source(file);
+        document(Files.readString(Path.of("../shared/DOC.md")), file);
         Checks.end("LanguageTest");
     }
 
@@ -53,6 +58,36 @@ public final class LanguageTest {
         Constructor<?>[] made = QuestionRoad.class.getDeclaredConstructors();
         Checks.dueTrue("one constructor", made.length == 1 && made[0].getParameterCount() == 0);
         Checks.dueTrue("a final class", Modifier.isFinal(QuestionRoad.class.getModifiers()));
+    }
+
+    /** Each line of the document's face, and what it says ahead of calls, stands in the file in the same order. */
+    private static void document(String text, String file) {
+        Map<String, String> headings = new HashMap<>();
+        Matcher said = Pattern.compile("Ahead of the calls `(\\w+)`.* the interface says: (---- .*)\\.").matcher(text);
+        while (said.find()) {
+            headings.put(said.group(1), "// " + said.group(2) + "\n");
+        }
+        Checks.due("headings", headings.size(), 5);
+        int behind = 0;
+        int lines = 0;
+        Matcher line = Pattern.compile("\n    (public (?:int|long|static|Q)[^;]*);").matcher(text);
+        while (line.find()) {
+            lines++;
+            String face = line.group(1);
+            String name = face.replaceAll("public \\w+ (\\w+)\\(.*", "$1");
+            if (headings.containsKey(name)) {
+                behind = placeBehind(file, headings.get(name), behind);
+            }
+            behind = placeBehind(file, face + (face.endsWith(")") ? " {" : ";"), behind);
+            Checks.dueTrue("a promise of " + name, !face.endsWith(")") || text.contains("`" + face.substring(7) + "`:"));
+        }
+        Checks.due("lines of the face", lines, 38);
+    }
+
+    private static int placeBehind(String file, String words, int start) {
+        int place = file.indexOf(words, start);
+        Checks.dueTrue("in its place: " + words, place >= 0);
+        return Math.max(place, start);
     }
 
     private static void nested() {
